@@ -623,8 +623,11 @@ public final class OffsetChains {
     private static final class Answers {
         private static final int ANY = -1;
         private static final int AS_IT_COMES = -1;
+        /** In place of a moment: the rough count, that knows no offsets. */
+        private static final int NO_MOMENT = -1;
 
         private final Plan plan;
+        private final int[] periods = new int[CHAINS];
         private final int[] late = new int[STEPS];
         private final int[] bounds = new int[STEPS];
         private final int[] worstMoment = new int[STEPS];
@@ -648,6 +651,7 @@ public final class OffsetChains {
 
         Answers(Plan plan) {
             this.plan = plan;
+            roundsTaken = NONE;
             stale = true;
         }
 
@@ -657,6 +661,9 @@ public final class OffsetChains {
             }
             stale = false;
             roundsTaken = NONE;
+            for (int i = 0; i < CHAINS; i++) {
+                periods[i] = plan.periodOf(i);
+            }
             for (int x = 0; x < STEPS; x++) {
                 late[x] = x % STEPS_EACH == 0 ? plan.traits[JITTER][x / STEPS_EACH] : 0;
             }
@@ -724,8 +731,8 @@ public final class OffsetChains {
             }
             gatherRivals(x);
             int cost = plan.marks[COST][x];
-            int period = plan.periodOf(x / STEPS_EACH);
-            int busy = leastQuickTime(x, AS_IT_COMES, 1);
+            int period = periods[x / STEPS_EACH];
+            int busy = leastTime(x, NO_MOMENT, AS_IT_COMES, 1);
             if (busy == NONE) {
                 return NONE;
             }
@@ -733,7 +740,7 @@ public final class OffsetChains {
             int most = NONE;
             int end = 0;
             for (int turn = 0; turn < often; turn++) {
-                end = leastQuickTime(x, turn + 1, end + cost);
+                end = leastTime(x, NO_MOMENT, turn + 1, end + cost);
                 if (end == NONE) {
                     return NONE;
                 }
@@ -780,7 +787,7 @@ public final class OffsetChains {
         private void placeComings() {
             for (int x = 0; x < STEPS; x++) {
                 int i = x / STEPS_EACH;
-                int period = plan.periodOf(i);
+                int period = periods[i];
                 for (int k = 0; k < plan.many[i] && plan.isStep(x); k++) {
                     int moment = i * STEPS_EACH + k;
                     int apart = plan.earliestOf(moment) + late[moment] - plan.earliestOf(x);
@@ -808,7 +815,7 @@ public final class OffsetChains {
         private boolean findLongest(int x) {
             int i = x / STEPS_EACH;
             int cost = plan.marks[COST][x];
-            int period = plan.periodOf(i);
+            int period = periods[i];
             int earliest = plan.earliestOf(x);
             best = Integer.MIN_VALUE;
             for (int k = 0; k < plan.many[i]; k++) {
@@ -848,7 +855,7 @@ public final class OffsetChains {
         private int leastTime(int x, int k, int turns, int from) {
             int t = from;
             for (int tries = 0; tries <= LONGEST_TIME && t <= LONGEST_TIME; tries++) {
-                int next = needed(x, k, turns, t);
+                int next = k == NO_MOMENT ? quickNeeded(x, turns, t) : needed(x, k, turns, t);
                 if (next == t) {
                     return t;
                 }
@@ -888,21 +895,9 @@ public final class OffsetChains {
 
         /** PHI is T at most and t 1 at least, so what is cut here is never below 0. */
         private int comes(int y, int k, int t) {
-            int period = plan.periodOf(y / STEPS_EACH);
+            int period = periods[y / STEPS_EACH];
             int at = y * STEPS_EACH + k;
             return early[at] + (t - phi[at] + period - 1) / period;
-        }
-
-        private int leastQuickTime(int x, int turns, int from) {
-            int t = from;
-            for (int tries = 0; tries <= LONGEST_TIME && t <= LONGEST_TIME; tries++) {
-                int next = quickNeeded(x, turns, t);
-                if (next == t) {
-                    return t;
-                }
-                t = next;
-            }
-            return NONE;
         }
 
         private int quickNeeded(int x, int turns, int t) {
@@ -918,7 +913,7 @@ public final class OffsetChains {
         }
 
         private int quickComes(int y, int t) {
-            int period = plan.periodOf(y / STEPS_EACH);
+            int period = periods[y / STEPS_EACH];
             return (late[y] + t + period - 1) / period;
         }
     }
