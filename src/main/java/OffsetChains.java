@@ -34,6 +34,7 @@ public final class OffsetChains {
     private static final int MOST_ITEMS = 60;
     private static final int SHORTS = 0, LONGS = 2;
     private static final long LONG_FACTOR = 100000007L;
+    private static final long LEAST_LONG = -9223372036854775808L;
 
     private static final int NULL_FINDING = 1, INDEX_FINDING = 2, CAST_FINDING = 3, STORE_FINDING = 4,
             SIZE_FINDING = 5;
@@ -309,11 +310,11 @@ public final class OffsetChains {
 
     public long get(int s, int form, int i) {
         if (!isSheet(s) || !isForm(form)) {
-            return Long.MIN_VALUE - BAD;
+            return LEAST_LONG - BAD;
         }
         int trouble = sheets[s].troubleAt(form, i);
         if (trouble != 0) {
-            return Long.MIN_VALUE - found(trouble);
+            return LEAST_LONG - found(trouble);
         }
         return sheets[s].items[i];
     }
@@ -817,7 +818,8 @@ public final class OffsetChains {
             int cost = plan.marks[COST][x];
             int period = periods[i];
             int earliest = plan.earliestOf(x);
-            best = Integer.MIN_VALUE;
+            // With x itself as the moment there is always an answer above 0.
+            best = 0;
             for (int k = 0; k < plan.many[i]; k++) {
                 int moment = i * STEPS_EACH + k;
                 if (moment != x && !plan.isRival(x, moment)) {

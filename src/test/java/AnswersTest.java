@@ -175,6 +175,10 @@ public final class AnswersTest {
         x.step(2, 1, 1, 0, 0);
         due.is("15 now it has one", x.meets(), 6);
         due.is("27 as many", x.count(2), 2);
+        x.chain(2, 2, 1);
+        due.is("15 the least deadline", x.meets(), 6);
+        x.tune(2, 0, 1, 2);
+        due.is("15 above the least deadline", x.meets(), 2);
         x.chain(2, 1, 1);
         x.chain(2, 0, 5);
         x.tune(2, 0, 1, 20);
@@ -192,6 +196,8 @@ public final class AnswersTest {
         x.chain(0, 2, 5);
         due.is("16 no more", x.margin(0, 0), 0);
         x.chain(0, 2, 4);
+        due.is("16 none", x.margin(0, 0), OffsetChains.NONE);
+        x.chain(0, 2, 1);
         due.is("16 none", x.margin(0, 0), OffsetChains.NONE);
         x.chain(0, 2, 13);
         due.is("16 just 8", x.margin(0, 0), 8);
