@@ -175,15 +175,16 @@ public final class AnswersTest {
         x.step(2, 1, 1, 0, 0);
         due.is("15 now it has one", x.meets(), 6);
         due.is("27 as many", x.count(2), 2);
-        x.chain(2, 2, 1);
-        due.is("15 the least deadline", x.meets(), 6);
-        x.tune(2, 0, 1, 2);
-        due.is("15 above the least deadline", x.meets(), 2);
         x.chain(2, 1, 1);
         x.chain(2, 0, 5);
         x.tune(2, 0, 1, 20);
         due.is("15 no bounds", x.meets(), 0);
         due.is("27 none", x.count(2), 0);
+        x = with(new int[] {40, 0, 0, 1, 5, 0});
+        x.chain(0, 2, 1);
+        due.is("15 the least deadline", x.meets(), 1);
+        x.tune(0, 0, 1, 2);
+        due.is("15 above the least deadline", x.meets(), 0);
     }
 
     private static void margin() {
