@@ -38,10 +38,16 @@ public final class ModelTest {
         return least + (int) ((state >>> 33) % (most - least + 1));
     }
 
-    /** Mostly within the borders, now and then just outside. */
+    /** Mostly within the borders, now and then just outside, or as far outside as can be. */
     private static int near(int least, int most) {
-        int way = any(0, 39);
-        return way == 0 ? least - 1 : way == 1 ? most + 1 : way == 2 ? least : way == 3 ? most : any(least, most);
+        switch (any(0, 79)) {
+            case 0: case 1: return least - 1;
+            case 2: case 3: return most + 1;
+            case 4: case 5: return least;
+            case 6: case 7: return most;
+            case 8: return any(0, 1) == 0 ? Integer.MIN_VALUE : Integer.MAX_VALUE;
+            default: return any(least, most);
+        }
     }
 
     private static int cost(int kind) {
@@ -100,15 +106,16 @@ public final class ModelTest {
 
     private static void answers(String at, int i, int j, OffsetChains x, Model m) {
         int what = near(0, 8);
+        int less = Math.floorMod(what, 5) - 1;
         int way = any(0, 11);
         switch (way) {
             case 0: due.is(at + " info", x.info(i, j, what), m.info(i, j, what)); break;
-            case 1: due.is(at + " load", x.load(i, j, what % 3), m.load(i, j, what % 3)); break;
+            case 1: due.is(at + " load", x.load(i, j, less), m.load(i, j, less)); break;
             case 2: due.is(at + " bound", x.bound(i, j), m.bound(i, j)); break;
             case 3: due.is(at + " searched", x.searched(i, j), m.searched(i, j)); break;
             case 4: due.is(at + " quick", x.quick(i, j), m.quick(i, j)); break;
             case 5: due.is(at + " rounds", x.rounds(), m.rounds()); break;
-            case 6: due.is(at + " worst", x.worst(i, j, what % 4), m.worst(i, j, what % 4)); break;
+            case 6: due.is(at + " worst", x.worst(i, j, less), m.worst(i, j, less)); break;
             case 7: due.is(at + " meets", x.meets(), m.meets()); break;
             case 8: {
                 int margin = x.margin(i, j);
@@ -116,8 +123,8 @@ public final class ModelTest {
                 due.is(at + " margin", margin, m.margin(i, j));
                 break;
             }
-            case 9: due.is(at + " better", x.better(i, j, what % 3), m.better(i, j, what % 3)); break;
-            case 10: due.is(at + " seen", x.seen(i, j, what % 4), m.seen(i, j, what % 4)); break;
+            case 9: due.is(at + " better", x.better(i, j, less), m.better(i, j, less)); break;
+            case 10: due.is(at + " seen", x.seen(i, j, less), m.seen(i, j, less)); break;
             default: due.is(at + " count", x.count(what), m.count(what)); break;
         }
     }
