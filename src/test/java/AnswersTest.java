@@ -20,18 +20,6 @@ public final class AnswersTest {
         due.end();
     }
 
-    private static OffsetChains with(int[]... chains) {
-        OffsetChains x = new OffsetChains();
-        for (int i = 0; i < chains.length; i++) {
-            x.chain(i, 0, chains[i][0]);
-            x.chain(i, 1, chains[i][1]);
-            for (int a = 2; a + 3 < chains[i].length; a += 4) {
-                x.step(i, chains[i][a], chains[i][a + 1], chains[i][a + 2], chains[i][a + 3]);
-            }
-        }
-        return x;
-    }
-
     private static void answers(String what, OffsetChains x, int i, int j, int bound, int searched, int quick) {
         due.is("10 " + what, x.bound(i, j), bound);
         due.is("11 " + what, x.searched(i, j), searched);
@@ -39,8 +27,9 @@ public final class AnswersTest {
     }
 
     private static void refusals() {
-        OffsetChains x = with(new int[] {20, 0, 0, 1, 1, 1}, new int[] {20, 0, 0, 1, 1, 1, 0, 1, 1, 1});
-        int[][] none = {{-1, 0}, {3, 0}, {0, -1}, {0, 1}, {1, 2}, {2, 0}, {Integer.MAX_VALUE, 0}, {0, Integer.MIN_VALUE}};
+        OffsetChains x = Make.with(new int[] {20, 0, 0, 1, 1, 1}, new int[] {20, 0, 0, 1, 1, 1, 0, 1, 1, 1});
+        int[][] none = {{-1, 0}, {3, 0}, {0, -1}, {0, 1}, {1, 2}, {2, 0}, {Integer.MAX_VALUE, 0},
+            {0, Integer.MIN_VALUE}};
         for (int[] at : none) {
             int i = at[0], j = at[1];
             due.is("10 no step", x.bound(i, j), OffsetChains.BAD);
@@ -58,12 +47,12 @@ public final class AnswersTest {
 
     private static void alone() {
         // Two come together within 15 of jitter: the first waits longest.
-        OffsetChains x = with(new int[] {10, 15, 0, 4, 2, 3});
+        OffsetChains x = Make.with(new int[] {10, 15, 0, 4, 2, 3});
         answers("alone", x, 0, 0, 4 + 15 + 3, 22, 22);
         due.is("14 busy", x.worst(0, 0, 2), 12);
         due.is("13 alone", x.rounds(), 1);
         // A chain of three on one node, each behind the other: none is in the other's way.
-        x = with(new int[] {60, 0, 1, 20, 9, 20, 1, 20, 8, 20, 1, 20, 7, 20});
+        x = Make.with(new int[] {60, 0, 1, 20, 9, 20, 1, 20, 8, 20, 1, 20, 7, 20});
         answers("its first", x, 0, 0, 40, 40, 40);
         answers("its second", x, 0, 1, 80, 80, 100);
         answers("its third", x, 0, 2, 120, 120, 160);
@@ -71,7 +60,7 @@ public final class AnswersTest {
 
     private static void borders() {
         // n of them are done at 20 n, and the next comes at 21 n less the jitter: so 10 or 11 in a row.
-        OffsetChains x = with(new int[] {21, 10, 0, 20, 0, 0});
+        OffsetChains x = Make.with(new int[] {21, 10, 0, 20, 0, 0});
         answers("BUSY of 200", x, 0, 0, 30, 30, 30);
         due.is("14 BUSY of 200", x.worst(0, 0, 2), 200);
         x.chain(0, 1, 11);
@@ -79,9 +68,9 @@ public final class AnswersTest {
         due.is("13 BUSY of 220", x.rounds(), -1);
         due.is("14 BUSY of 220", x.worst(0, 0, 2), -1);
         // LOAD of just 1; then below 1, and a little above.
-        x = with(new int[] {20, 0, 0, 20, 3, 0});
+        x = Make.with(new int[] {20, 0, 0, 20, 3, 0});
         answers("LOAD of 1", x, 0, 0, 20, 20, 20);
-        x = with(new int[] {20, 0, 0, 10, 3, 0}, new int[] {20, 0, 0, 9, 3, 0}, new int[] {95, 0, 1, 1, 1, 0});
+        x = Make.with(new int[] {20, 0, 0, 10, 3, 0}, new int[] {20, 0, 0, 9, 3, 0}, new int[] {95, 0, 1, 1, 1, 0});
         answers("LOAD below 1", x, 2, 0, 1, 1, 1);
         answers("LOAD below 1", x, 0, 0, 19, 19, 19);
         x.tune(1, 0, 1, 11);
@@ -91,23 +80,23 @@ public final class AnswersTest {
     }
 
     private static void offsetsTold() {
-        OffsetChains x = with(new int[] {81, 0, 0, 5, 3, 13, 0, 9, 4, 18}, new int[] {83, 22, 0, 12, 4, 1});
+        OffsetChains x = Make.with(new int[] {81, 0, 0, 5, 3, 13, 0, 9, 4, 18}, new int[] {83, 22, 0, 12, 4, 1});
         answers("the second is never in the way of the first", x, 0, 0, 30, 30, 39);
-        x = with(new int[] {38, 3, 0, 3, 3, 0}, new int[] {96, 0, 0, 20, 4, 0, 0, 12, 3, 6});
+        x = Make.with(new int[] {38, 3, 0, 3, 3, 0}, new int[] {96, 0, 0, 20, 4, 0, 0, 12, 3, 6});
         answers("one of them alone", x, 0, 0, 26, 26, 38);
         answers("behind its own first", x, 1, 1, 41, 41, 61);
     }
 
     private static void oneMomentChosen() {
-        OffsetChains x = with(new int[] {76, 0, 0, 1, 4, 9}, new int[] {45, 0, 0, 11, 4, 1, 0, 15, 4, 3});
+        OffsetChains x = Make.with(new int[] {76, 0, 0, 1, 4, 9}, new int[] {45, 0, 0, 11, 4, 1, 0, 15, 4, 3});
         // By the first 1 and 11 to 12, by the second 1 and 15 to 16; the greatest of both goes on to 27.
         answers("two moments", x, 0, 0, 27 + 9, 16 + 9, 36);
-        x = with(new int[] {57, 0, 0, 16, 3, 6, 0, 20, 3, 13}, new int[] {92, 25, 0, 11, 3, 5});
+        x = Make.with(new int[] {57, 0, 0, 16, 3, 6, 0, 20, 3, 13}, new int[] {92, 25, 0, 11, 3, 5});
         answers("two moments, and jitter", x, 1, 0, 133, 117, 133);
     }
 
     private static void noQuick() {
-        OffsetChains x = with(new int[] {27, 0, 0, 18, 3, 19, 0, 7, 3, 9}, new int[] {93, 0, 0, 3, 4, 16});
+        OffsetChains x = Make.with(new int[] {27, 0, 0, 18, 3, 19, 0, 7, 3, 9}, new int[] {93, 0, 0, 3, 4, 16});
         answers("no QUICK", x, 0, 0, 54, 54, -1);
         answers("no QUICK", x, 0, 1, 92, 92, -1);
         answers("nobody is in its way", x, 1, 0, 19, 19, 19);
@@ -116,13 +105,13 @@ public final class AnswersTest {
     private static void rounds() {
         OffsetChains x = new OffsetChains();
         due.is("13 no steps", x.rounds(), 1);
-        x = with(new int[] {20, 0, 0, 3, 5, 0, 1, 4, 5, 2}, new int[] {20, 0, 0, 3, 5, 0});
+        x = Make.with(new int[] {20, 0, 0, 3, 5, 0, 1, 4, 5, 2}, new int[] {20, 0, 0, 3, 5, 0});
         due.is("13 one changes, one not", x.rounds(), 2);
         due.is("13 passed on", x.info(0, 1, 5), 3);
-        x = with(new int[] {11, 11, 0, 3, 0, 20, 0, 1, 2, 20, 0, 3, 8, 4});
+        x = Make.with(new int[] {11, 11, 0, 3, 0, 20, 0, 1, 2, 20, 0, 3, 8, 4});
         due.is("13 twenty", x.rounds(), 20);
         due.is("13 twenty", x.count(1), 1);
-        x = with(new int[] {18, 20, 0, 1, 0, 11, 0, 1, 5, 0, 0, 7, 4, 1});
+        x = Make.with(new int[] {18, 20, 0, 1, 0, 11, 0, 1, 5, 0, 0, 7, 4, 1});
         due.is("13 the 20th changes one", x.rounds(), -1);
         due.is("13 the 20th changes one", x.count(1), 0);
         for (int j = 0; j < 3; j++) {
@@ -139,26 +128,26 @@ public final class AnswersTest {
     }
 
     private static void worst() {
-        worst("jitter", with(new int[] {10, 15, 0, 4, 2, 3}), 0, 0, 0, 0, 12);
-        OffsetChains x = with(new int[] {42, 0, 0, 5, 4, 14, 0, 14, 3, 0},
+        worst("jitter", Make.with(new int[] {10, 15, 0, 4, 2, 3}), 0, 0, 0, 0, 12);
+        OffsetChains x = Make.with(new int[] {42, 0, 0, 5, 4, 14, 0, 14, 3, 0},
                 new int[] {76, 0, 0, 14, 3, 14, 0, 14, 3, 4});
         worst("by the one before, a later one", x, 0, 1, 0, 1, 146);
         due.is("10 that", x.bound(0, 1), 85);
-        x = with(new int[] {15, 8, 0, 10, 4, 5, 0, 1, 3, 18}, new int[] {93, 0, 0, 20, 4, 1});
+        x = Make.with(new int[] {15, 8, 0, 10, 4, 5, 0, 1, 3, 18}, new int[] {93, 0, 0, 20, 4, 1});
         worst("by the one before, the fourth", x, 0, 1, 0, 3, 184);
         due.is("10 that", x.bound(0, 1), 167);
         // By the first 21 less 3 and 27, by itself 3 less 23 and 38 and 27: 45 by both, so the least is named.
-        x = with(new int[] {38, 15, 0, 18, 4, 9, 0, 3, 3, 0});
+        x = Make.with(new int[] {38, 15, 0, 18, 4, 9, 0, 3, 3, 0});
         worst("the least moment", x, 0, 1, 0, 0, 21);
         due.is("10 that", x.bound(0, 1), 45);
         // 56 by the first and by the second.
-        x = with(new int[] {20, 23, 0, 8, 4, 4}, new int[] {35, 0, 0, 19, 4, 5});
+        x = Make.with(new int[] {20, 23, 0, 8, 4, 4}, new int[] {35, 0, 0, 19, 4, 5});
         worst("the least Q", x, 1, 0, 0, 0, 175);
         due.is("10 that", x.bound(1, 0), 56);
     }
 
     private static void meets() {
-        OffsetChains x = with(new int[] {40, 0, 0, 4, 5, 3, 1, 6, 5, 0}, new int[] {40, 0, 0, 5, 2, 0});
+        OffsetChains x = Make.with(new int[] {40, 0, 0, 4, 5, 3, 1, 6, 5, 0}, new int[] {40, 0, 0, 5, 2, 0});
         due.is("15 no deadlines", x.meets(), 0);
         due.is("10 first", x.bound(0, 1), 13);
         due.is("10 second", x.bound(1, 0), 9);
@@ -180,7 +169,7 @@ public final class AnswersTest {
         x.tune(2, 0, 1, 20);
         due.is("15 no bounds", x.meets(), 0);
         due.is("27 none", x.count(2), 0);
-        x = with(new int[] {40, 0, 0, 1, 5, 0});
+        x = Make.with(new int[] {40, 0, 0, 1, 5, 0});
         x.chain(0, 2, 1);
         due.is("15 the least deadline", x.meets(), 1);
         x.tune(0, 0, 1, 2);
@@ -188,7 +177,7 @@ public final class AnswersTest {
     }
 
     private static void margin() {
-        OffsetChains x = with(new int[] {100, 0, 0, 5, 1, 0});
+        OffsetChains x = Make.with(new int[] {100, 0, 0, 5, 1, 0});
         due.is("16 no deadlines", x.margin(0, 0), 8);
         x.chain(0, 2, 10);
         due.is("16 5 more", x.margin(0, 0), 5);
@@ -214,7 +203,7 @@ public final class AnswersTest {
     }
 
     private static void marginOfAllDeadlines() {
-        OffsetChains x = with(new int[] {50, 0, 0, 5, 9, 0}, new int[] {50, 0, 0, 6, 1, 0, 1, 7, 1, 2},
+        OffsetChains x = Make.with(new int[] {50, 0, 0, 5, 9, 0}, new int[] {50, 0, 0, 6, 1, 0, 1, 7, 1, 2},
                 new int[] {50, 0, 1, 1, 0, 0});
         x.chain(0, 2, 50);
         due.is("16 its own", x.margin(0, 0), 8);
@@ -228,7 +217,7 @@ public final class AnswersTest {
     }
 
     private static void better() {
-        OffsetChains x = with(new int[] {20, 0, 0, 4, 5, 0}, new int[] {20, 0, 0, 5, 3, 0});
+        OffsetChains x = Make.with(new int[] {20, 0, 0, 4, 5, 0}, new int[] {20, 0, 0, 5, 3, 0});
         due.is("17 above the other's", x.better(1, 0, 0), 6);
         due.is("17 alone then", x.better(1, 0, 1), 5);
         due.is("17 as it is", x.info(1, 0, 2), 3);
@@ -248,14 +237,14 @@ public final class AnswersTest {
         due.is("17 by none", x.better(1, 0, 0), OffsetChains.NONE);
         due.is("17 by none", x.better(1, 0, 1), OffsetChains.NONE);
         // By some it is ENDLESS, by others not.
-        x = with(new int[] {10, 1, 0, 5, 4, 0}, new int[] {10, 1, 0, 5, 6, 0}, new int[] {10, 0, 1, 5, 6, 0});
+        x = Make.with(new int[] {10, 1, 0, 5, 4, 0}, new int[] {10, 1, 0, 5, 6, 0}, new int[] {10, 0, 1, 5, 6, 0});
         due.is("10 ENDLESS", x.bound(1, 0), OffsetChains.NONE);
         due.is("17 by none, for the other is behind then", x.better(1, 0, 1), OffsetChains.NONE);
         due.is("17 by none, for others are ENDLESS", x.better(2, 0, 1), OffsetChains.NONE);
     }
 
     private static void betterByTheLastStep() {
-        OffsetChains x = with(new int[] {50, 0, 0, 4, 5, 0, 1, 3, 2, 0}, new int[] {50, 0, 0, 5, 5, 0},
+        OffsetChains x = Make.with(new int[] {50, 0, 0, 4, 5, 0, 1, 3, 2, 0}, new int[] {50, 0, 0, 5, 5, 0},
                 new int[] {50, 0, 1, 6, 2, 0});
         due.is("10 its last", x.bound(0, 1), 18);
         due.is("17 of the first, for the last", x.better(0, 0, 0), 6);
@@ -265,7 +254,7 @@ public final class AnswersTest {
     }
 
     private static void changesAreSeen() {
-        OffsetChains x = with(new int[] {30, 0, 0, 4, 5, 0});
+        OffsetChains x = Make.with(new int[] {30, 0, 0, 4, 5, 0});
         due.is("10 alone", x.bound(0, 0), 4);
         x.step(1, 0, 3, 5, 0);
         due.is("10 step()", x.bound(0, 0), 7);

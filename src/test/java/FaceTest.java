@@ -19,10 +19,12 @@ public final class FaceTest {
     private static final Due due = new Due("FaceTest");
 
     public static void main(String[] args) {
+        // The public face: "public static final int NONE = -1, BAD = -2, NOT = -3, FULL = -4;".
         due.is("NONE", OffsetChains.NONE, -1);
         due.is("BAD", OffsetChains.BAD, -2);
         due.is("NOT", OffsetChains.NOT, -3);
         due.is("FULL", OffsetChains.FULL, -4);
+        // The public face: "public final class OffsetChains", each of its calls, and no other member that is not private.
         Set<String> face = new TreeSet<>(Set.of(FACE));
         Set<String> names = new TreeSet<>();
         for (Method method : OffsetChains.class.getDeclaredMethods()) {
@@ -44,9 +46,11 @@ public final class FaceTest {
             int modifiers = field.getModifiers();
             due.is("field " + field.getName(), Modifier.isPublic(modifiers) ? 1 : 0,
                     constants.contains(field.getName()) ? 1 : 0);
-            due.is("field " + field.getName(), Modifier.isPublic(modifiers) || Modifier.isPrivate(modifiers) ? 1 : 0, 1);
+            boolean seenOrHidden = Modifier.isPublic(modifiers) || Modifier.isPrivate(modifiers);
+            due.is("field " + field.getName(), seenOrHidden ? 1 : 0, 1);
             due.is("field " + field.getName(), Modifier.isStatic(modifiers) && !Modifier.isFinal(modifiers) ? 1 : 0, 0);
         }
+        // The public face: "public OffsetChains();".
         Constructor<?>[] made = OffsetChains.class.getDeclaredConstructors();
         due.is("constructors", made.length, 1);
         due.is("its parameters", made[0].getParameterCount(), 0);

@@ -106,7 +106,8 @@ final class Model {
     }
 
     int step(int i, int node, int cost, int priority, int lag) {
-        if (!in(i, 0, 2) || !legalMark(0, node) || !legalMark(1, cost) || !legalMark(2, priority) || !legalMark(3, lag)) {
+        if (!in(i, 0, 2) || !legalMark(0, node) || !legalMark(1, cost) || !legalMark(2, priority)
+                || !legalMark(3, lag)) {
             return -2;
         }
         if (chains.get(i).size() == 3) return -4;

@@ -1,4 +1,8 @@
-/** Long rows of calls, the same each time, on the program and on the Model: every answer is compared. */
+/**
+ * Long rows of calls, the same each time, on the program and on the Model: every answer is compared. An object is used
+ * for 512 calls at most, so an object has CALLS of them, some with a get() behind, and what whole() asks: 180 and 300
+ * at the most.
+ */
 public final class ModelTest {
     private static final int OBJECTS = 400;
     private static final int CALLS = 90;
@@ -55,7 +59,8 @@ public final class ModelTest {
     }
 
     private static int period(int kind) {
-        return any(0, 14) == 0 ? near(5, 100) : kind == 0 ? any(5, 100) : any(kind == 1 ? 12 : 25, kind == 3 ? 40 : 100);
+        if (any(0, 14) == 0) return near(5, 100);
+        return kind == 0 ? any(5, 100) : any(kind == 1 ? 12 : 25, kind == 3 ? 40 : 100);
     }
 
     private static int trait(int kind, int what) {
@@ -164,10 +169,10 @@ public final class ModelTest {
             }
         }
         for (int s = 0; s < 4; s++) {
-            for (int form = 0; form < 3; form++) {
-                for (int item = 0; item <= 60; item++) {
-                    due.is(at + " get", x.get(s, form, item), m.get(s, form, item));
-                }
+            int form = m.rows[s] == null ? 1 : m.rows[s].form;
+            int items = m.rows[s] == null ? 0 : m.rows[s].items.length;
+            for (int item = -1; item <= items; item++) {
+                due.is(at + " get", x.get(s, form, item), m.get(s, form, item));
             }
         }
     }
