@@ -174,10 +174,10 @@ public final class BordersOfAnswersTest {
         due.is("it goes on to 5 and 11 and 14", x.bound(0, 0), 30);
     }
 
-    // Terms: "BUSY: the least t (1 on)".
+    // Terms, and 2 of QUICK: "BUSY: the least t (1 on)".
     private static void busyIsFrom1On() {
         OffsetChains x = Make.with(told(100, 0, 0, 1, 0, 0));
-        due.is("the least there is", x.bound(0, 0), 1);
+        answers("the least there is", x, 0, 0, 1, 1, 1);
         worst("the least there is", x, 0, 0, 0, 0, 1);
     }
 
