@@ -318,10 +318,10 @@ public final class BordersOfChainsTest {
         OffsetChains x = new OffsetChains();
         x.step(1, 1, 1, 0, 0);
         due.is("alone", x.info(1, 0, 6), 0);
-        for (int i = 0; i < 3; i++) {
-            while (x.step(i, 1, 1, 0, 0) >= 0) {
-                due.is("one more", x.info(1, 0, 6), x.count(0) - 1);
-            }
+        int[] more = {0, 0, 0, 1, 1, 2, 2, 2};
+        for (int a = 0; a < more.length; a++) {
+            x.step(more[a], 1, 1, 0, 0);
+            due.is("one more", x.info(1, 0, 6), a + 1);
         }
         for (int number = 0; number < 9; number++) {
             due.is("all the others", x.info(number / 3, number % 3, 6), 8);
